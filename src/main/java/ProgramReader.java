@@ -954,6 +954,7 @@ public final class ProgramReader {
 
     /** All names read so far, found again by chains of those with the same hash. */
     private static final class Names {
+        // A power of two, so that a mask picks the chain.
         private static final int FIRST_ROOM = 16;
 
         int count = 0;
@@ -1042,7 +1043,7 @@ public final class ProgramReader {
             for (int i = from; i < to; i++) {
                 hash = 31 * hash + text[i];
             }
-            return Math.floorMod(hash, heads.length);
+            return hash & heads.length - 1;
         }
     }
 
