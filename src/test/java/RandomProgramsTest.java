@@ -22,7 +22,7 @@ public final class RandomProgramsTest {
         if (text.length() > 8000) {
             return;
         }
-        ProgramReader reader = new ProgramReader();
+        Sitting reader = new Sitting();
         CHECKS.equal("fault of " + text, Checks.readText(reader, 0, text), -1);
         Map<String, Integer> names = new LinkedHashMap<>();
         CHECKS.equal("tree of " + text, Checks.treeText(reader, 0, 0), treeText(due, places, names));
@@ -50,7 +50,7 @@ public final class RandomProgramsTest {
         return node.kind == 12 ? Integer.parseInt(node.spelling) : 0;
     }
 
-    private static void parts(ProgramReader reader, ProgramMaker.Node due, String text) {
+    private static void parts(Sitting reader, ProgramMaker.Node due, String text) {
         List<ProgramMaker.Node> all = new ArrayList<>();
         due.collect(all);
         CHECKS.equal("nodes of " + text, reader.nodes(0), all.size());
@@ -63,7 +63,7 @@ public final class RandomProgramsTest {
 
     // Read again it is the same tree; without one of its pairs of brackets, or one of its blanks,
     // it is not, or none at all.
-    private static void written(ProgramReader reader, String text) {
+    private static void written(Sitting reader, String text) {
         String written = Checks.writeText(reader, 0, 0);
         CHECKS.equal("again", reader.again(), written.length());
         CHECKS.equal("fault of " + written, reader.read(1, -1), -1);
@@ -74,9 +74,9 @@ public final class RandomProgramsTest {
         }
         for (int at = 0; at < written.length(); at++) {
             if (written.charAt(at) == ' ') {
-                differs(reader, without(written, at, at));
+                differs(written, without(written, at, at));
             } else if ("([".indexOf(written.charAt(at)) >= 0) {
-                differs(reader, without(written, at, closing(written, at)));
+                differs(written, without(written, at, closing(written, at)));
             }
         }
     }
@@ -100,7 +100,9 @@ public final class RandomProgramsTest {
         return rest.toString();
     }
 
-    private static void differs(ProgramReader reader, String text) {
+    private static void differs(String written, String text) {
+        Sitting reader = new Sitting();
+        Checks.readText(reader, 0, written);
         boolean whole = Checks.readText(reader, 1, text) == ProgramReader.NONE;
         CHECKS.equal("the same as " + text, whole && reader.same() ? 1 : 0, 0);
     }
