@@ -923,9 +923,8 @@ public final class ProgramReader {
             int whole = NONE;
             int wholesRound = 0;
             for (int i = draft.count - 1; i >= 0; i--) {
-                while (whole != NONE && i <= whole - wholesRound) {
+                for (; wholesRound > 0 && i <= whole - wholesRound; wholesRound--) {
                     whole = wholes[whole];
-                    wholesRound--;
                 }
                 int k = i - draft.sizes[i] + 1 + wholesRound;
                 kinds[k] = draft.kinds[i];
@@ -976,10 +975,12 @@ public final class ProgramReader {
         }
 
         int numberOf(byte[] text, int from, int to) {
-            for (int name = heads[chain(text, from, to)]; name != NONE; name = nexts[name]) {
+            int name = heads[chain(text, from, to)];
+            for (int passed = 0; passed < count && name != NONE; passed++) {
                 if (isSpelt(name, text, from, to)) {
                     return name;
                 }
+                name = nexts[name];
             }
             return add(text, from, to);
         }
@@ -1081,9 +1082,11 @@ public final class ProgramReader {
         }
 
         private void endDownTo(int whole, int last) {
-            for (int k = last; k > whole; k = tree.wholes[k]) {
+            int k = last;
+            for (int ended = 0; ended < tree.count && k > whole; ended++) {
                 put(ending(k));
                 put(isBracketed(k) ? closing(k) : "");
+                k = tree.wholes[k];
             }
         }
 

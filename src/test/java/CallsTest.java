@@ -11,6 +11,7 @@ public final class CallsTest {
         fullText();
         newNames();
         lastNameSpelt();
+        longNames();
         faultsOnly();
         emptyReads();
         roundAndRound();
@@ -86,6 +87,35 @@ public final class CallsTest {
         due("spelt", reader.spelt(names - 1, 0), last.charAt(0));
         due("spelt", reader.spelt(names - 1, last.length() - 1), last.charAt(last.length() - 1));
         end();
+    }
+
+    // As many bytes of names as 512 calls can bring: each as long as it can be.
+    private static void longNames() {
+        begin();
+        ProgramReader reader = new ProgramReader();
+        int first = readLongNames(reader, 0, 8000, 0);
+        int names = 1 + first + readLongNames(reader, 1, 107 * 20, first);
+        due("names", reader.names(), names);
+        String last = longName(names - 2);
+        due("spelt", reader.spelt(names - 1, 29), last.charAt(29));
+        due("spelt", reader.spelt(names - 1, 30), -1);
+        end();
+    }
+
+    private static int readLongNames(ProgramReader reader, int tree, int bytes, int known) {
+        StringBuilder text = new StringBuilder("fun function(");
+        int names = 0;
+        for (; text.length() + 34 <= bytes; names++) {
+            text.append(names == 0 ? "" : ",").append(longName(known + names));
+        }
+        text.append("){}").append(Checks.repeat(" ", bytes - text.length()));
+        feedAll(reader, text.toString());
+        due("read", reader.read(tree, bytes), -1);
+        return names;
+    }
+
+    private static String longName(int i) {
+        return "abcdefghijklmnopqrstuvwxyz" + (1000 + i);
     }
 
     /** Answers how many names stood in the brackets, each a new one. */

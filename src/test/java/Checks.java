@@ -1,6 +1,7 @@
 /** Counts the answers that are not the due ones, and the steps that all tests share. */
 final class Checks {
     private static final int MOST_TOLD = 20;
+    private static final int MOST_BYTES = 8000;
     private static final long MOST_SECONDS = 240;
 
     private final String title;
@@ -92,7 +93,7 @@ final class Checks {
 
     static String writtenText(Sitting reader) {
         StringBuilder text = new StringBuilder();
-        for (int b = reader.written(0); b != ProgramReader.NONE; b = reader.written(text.length())) {
+        for (int b = reader.written(0); b != -1 && text.length() <= MOST_BYTES; b = reader.written(text.length())) {
             text.append((char) b);
         }
         return text.toString();
@@ -106,7 +107,7 @@ final class Checks {
 
     static String nameText(Sitting reader, int name) {
         StringBuilder text = new StringBuilder();
-        for (int b = reader.spelt(name, 0); b != ProgramReader.NONE; b = reader.spelt(name, text.length())) {
+        for (int b = reader.spelt(name, 0); b != -1 && text.length() <= MOST_BYTES; b = reader.spelt(name, text.length())) {
             text.append((char) b);
         }
         return text.toString();

@@ -16,6 +16,7 @@ public final class NamesTest {
         spelt();
         noSuchName();
         noSuchByte();
+        eachNumberOfNames();
         many();
         CHECKS.end();
     }
@@ -200,6 +201,23 @@ public final class NamesTest {
         CHECKS.equal("behind two", reader.spelt(0, 2), -1);
         CHECKS.equal("behind one", reader.spelt(2, 1), -1);
         CHECKS.equal("behind the last", reader.spelt(3, 1), -1);
+    }
+
+    // Rows grow at some number of names: before, at and behind it all must be there, and no more.
+    private static void eachNumberOfNames() {
+        CHECKS.sentence("NAMEs are numbered .. as they are read first, in all texts");
+        StringBuilder text = new StringBuilder("fun f(f");
+        for (int names = 1; names <= 300; names++) {
+            Sitting reader = new Sitting();
+            CHECKS.equal("read", Checks.readText(reader, 0, text + "){}"), -1);
+            CHECKS.equal("names", reader.names(), names);
+            CHECKS.equal("name behind the last", reader.spelt(names, 0), -1);
+            CHECKS.equal("bytes of the last", Checks.nameText(reader, names - 1), names == 1 ? "f" : "n" + names);
+            CHECKS.equal("read again", Checks.readText(reader, 1, text + "){}"), -1);
+            CHECKS.equal("no new names", reader.names(), names);
+            CHECKS.equal("same", reader.same(), true);
+            text.append(",n").append(names + 1);
+        }
     }
 
     // More names than the first rows hold, so that they grow, and all must be found again.
