@@ -206,18 +206,32 @@ public final class NamesTest {
     // Rows grow at some number of names: before, at and behind it all must be there, and no more.
     private static void eachNumberOfNames() {
         CHECKS.sentence("NAMEs are numbered .. as they are read first, in all texts");
-        StringBuilder text = new StringBuilder("fun f(f");
         for (int names = 1; names <= 300; names++) {
-            Sitting reader = new Sitting();
-            CHECKS.equal("read", Checks.readText(reader, 0, text + "){}"), -1);
-            CHECKS.equal("names", reader.names(), names);
-            CHECKS.equal("name behind the last", reader.spelt(names, 0), -1);
-            CHECKS.equal("bytes of the last", Checks.nameText(reader, names - 1), names == 1 ? "f" : "n" + names);
-            CHECKS.equal("read again", Checks.readText(reader, 1, text + "){}"), -1);
-            CHECKS.equal("no new names", reader.names(), names);
-            CHECKS.equal("same", reader.same(), true);
-            text.append(",n").append(names + 1);
+            numberOfNames("n", names);
         }
+        String prefixes = "abcdefghijklmopqrstuvwxyzABCDEFGHIJKLMNOPQRSTUVWXYZ_";
+        for (int i = 0; i < prefixes.length(); i++) {
+            for (int power = 8; power <= 256; power *= 2) {
+                numberOfNames(prefixes.substring(i, i + 1), power);
+                numberOfNames(prefixes.substring(i, i + 1), power + 1);
+            }
+        }
+    }
+
+    private static void numberOfNames(String prefix, int names) {
+        StringBuilder text = new StringBuilder("fun f(f");
+        for (int name = 2; name <= names; name++) {
+            text.append(',').append(prefix).append(name);
+        }
+        text.append("){}");
+        Sitting reader = new Sitting();
+        CHECKS.equal("read", Checks.readText(reader, 0, text.toString()), -1);
+        CHECKS.equal("names", reader.names(), names);
+        CHECKS.equal("name behind the last", reader.spelt(names, 0), -1);
+        CHECKS.equal("bytes of the last", Checks.nameText(reader, names - 1), names == 1 ? "f" : prefix + names);
+        CHECKS.equal("read again", Checks.readText(reader, 1, text.toString()), -1);
+        CHECKS.equal("no new names", reader.names(), names);
+        CHECKS.equal("same", reader.same(), true);
     }
 
     // More names than the first rows hold, so that they grow, and all must be found again.
