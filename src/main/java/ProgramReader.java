@@ -75,15 +75,15 @@ public final class ProgramReader {
     }
 
     public int node(int tree, int k, int what) {
-        return hasNode(tree, k) ? trees[tree].about(k, what) : REFUSED;
+        return hasTree(tree) ? trees[tree].about(k, what) : REFUSED;
     }
 
     public int part(int tree, int k, int i) {
-        return hasNode(tree, k) ? trees[tree].partAt(k, i) : NONE;
+        return hasTree(tree) ? trees[tree].partAt(k, i) : NONE;
     }
 
     public int whole(int tree, int k) {
-        return hasNode(tree, k) ? trees[tree].wholes[k] : NONE;
+        return hasTree(tree) ? trees[tree].wholeOf(k) : NONE;
     }
 
     public int names() {
@@ -95,7 +95,7 @@ public final class ProgramReader {
     }
 
     public int write(int tree, int k) {
-        if (!hasNode(tree, k) || !writer.compose(trees[tree], k, spare)) {
+        if (!hasTree(tree) || !writer.compose(trees[tree], k, spare)) {
             return NONE;
         }
         ByteRow composed = spare;
@@ -119,10 +119,6 @@ public final class ProgramReader {
 
     private boolean hasTree(int tree) {
         return tree >= 0 && tree < TREES;
-    }
-
-    private boolean hasNode(int tree, int k) {
-        return hasTree(tree) && trees[tree].has(k);
     }
 
     // Names get their numbers from the finished tree, in the order of its nodes, which is that of
@@ -271,7 +267,8 @@ public final class ProgramReader {
 
         void addRange(byte[] source, int from, int to) {
             int length = to - from;
-            if (length > most - count) {
+            boolean isInside = from >= 0 && length >= 0 && to <= source.length;
+            if (!isInside || length > most - count) {
                 full = true;
                 return;
             }
@@ -302,9 +299,9 @@ public final class ProgramReader {
 
         byte[] text = new byte[0];
         private int end = 0;
-        int[] kinds = new int[0];
-        int[] places = new int[0];
-        int[] values = new int[0];
+        private int[] kinds = new int[0];
+        private int[] places = new int[0];
+        private int[] values = new int[0];
         int count = 0;
 
         void scan(byte[] source, int length) {
@@ -321,6 +318,14 @@ public final class ProgramReader {
 
         int kindAt(int i) {
             return i >= 0 && i < count ? kinds[i] : Token.END;
+        }
+
+        int placeAt(int i) {
+            return i >= 0 && i < count ? places[i] : end;
+        }
+
+        int valueAt(int i) {
+            return i >= 0 && i < count ? values[i] : 0;
         }
 
         int behindWord(int from) {
@@ -515,30 +520,27 @@ public final class ProgramReader {
     private static final class Parser {
         private final Tokens tokens;
         private final Draft draft;
-        private int[] kinds;
         private int at = 0;
 
         Parser(Tokens tokens, Draft draft) {
             this.tokens = tokens;
             this.draft = draft;
-            kinds = tokens.kinds;
         }
 
         /** Answers the place of the fault, or NONE. */
         int parse() {
-            kinds = tokens.kinds;
             at = 0;
             // No token brings more than two nodes (+ a sum and its part, ( a call and NOTHING).
             draft.begin(2 * tokens.count + 1);
             int fault = NONE;
             int kept = 0;
             try {
-                for (int i = 0; i < tokens.count && (i == 0 || kinds[at] != Token.END); i++) {
+                for (int i = 0; i < tokens.count && (i == 0 || !isAt(Token.END, Token.END)); i++) {
                     function();
                     kept = draft.count;
                 }
             } catch (IllegalStateException refused) {
-                fault = tokens.places[at];
+                fault = tokens.placeAt(at);
                 draft.count = kept;
             }
             draft.add(Kind.TEXT, NONE, 0, draft.count + 1);
@@ -547,11 +549,11 @@ public final class ProgramReader {
 
         private void function() {
             int start = draft.count;
-            int place = tokens.places[at];
+            int place = tokens.placeAt(at);
             take(Token.FUN);
             name();
             take(Token.OPEN);
-            if (kinds[at] == Token.NAME) {
+            if (tokens.kindAt(at) == Token.NAME) {
                 name();
                 for (int i = 0; i < tokens.count && skip(Token.COMMA); i++) {
                     name();
@@ -565,7 +567,7 @@ public final class ProgramReader {
         private void block(int depth) {
             limit(depth);
             int start = draft.count;
-            int place = tokens.places[at];
+            int place = tokens.placeAt(at);
             take(Token.CURLY_OPEN);
             for (int i = 0; i < tokens.count && !skip(Token.CURLY_CLOSE); i++) {
                 statement(depth);
@@ -575,9 +577,9 @@ public final class ProgramReader {
 
         private void statement(int depth) {
             int start = draft.count;
-            int place = tokens.places[at];
+            int place = tokens.placeAt(at);
             int kind;
-            switch (kinds[at]) {
+            switch (tokens.kindAt(at)) {
                 case Token.VAR:
                     kind = variable(depth);
                     break;
@@ -623,14 +625,14 @@ public final class ProgramReader {
 
         private int call(int depth) {
             if (tokens.kindAt(at + 1) == Token.OPEN) {
-                draft.add(Kind.NOTHING, tokens.places[at], 0, 1);
+                draft.add(Kind.NOTHING, tokens.placeAt(at), 0, 1);
             } else {
                 name();
                 take(Token.ASSIGN);
             }
             name();
             take(Token.OPEN);
-            if (kinds[at] != Token.CLOSE) {
+            if (tokens.kindAt(at) != Token.CLOSE) {
                 sum(depth + 1);
                 for (int i = 0; i < tokens.count && skip(Token.COMMA); i++) {
                     sum(depth + 1);
@@ -656,7 +658,7 @@ public final class ProgramReader {
         }
 
         private int conditional(int depth) {
-            int word = kinds[at];
+            int word = tokens.kindAt(at);
             take(word);
             condition(depth + 1, Token.OPEN, Token.CLOSE);
             if (word == Token.ASSERT) {
@@ -705,17 +707,17 @@ public final class ProgramReader {
         private void test(int depth) {
             limit(depth);
             int start = draft.count;
-            int place = tokens.places[at];
+            int place = tokens.placeAt(at);
             if (skip(Token.NOT)) {
                 test(depth + 1);
                 finish(Kind.NOT, place, start);
-            } else if (kinds[at] == Token.SQUARE_OPEN) {
+            } else if (tokens.kindAt(at) == Token.SQUARE_OPEN) {
                 condition(depth + 1, Token.SQUARE_OPEN, Token.SQUARE_CLOSE);
             } else {
                 sum(depth + 1);
                 place = draft.lastPlace();
-                int relation = kinds[at];
-                if (!isIn(relation, Token.LESS, Token.UNEQUAL)) {
+                int relation = tokens.kindAt(at);
+                if (!isAt(Token.LESS, Token.UNEQUAL)) {
                     refuse();
                 }
                 take(relation);
@@ -730,9 +732,9 @@ public final class ProgramReader {
             term(depth);
             int place = draft.lastPlace();
             int others = 0;
-            for (; others < tokens.count && isIn(kinds[at], Token.PLUS, Token.MINUS); others++) {
-                int sign = kinds[at];
-                int signPlace = tokens.places[at];
+            for (; others < tokens.count && isAt(Token.PLUS, Token.MINUS); others++) {
+                int sign = tokens.kindAt(at);
+                int signPlace = tokens.placeAt(at);
                 int signStart = draft.count;
                 take(sign);
                 term(depth);
@@ -748,9 +750,9 @@ public final class ProgramReader {
             factor(depth);
             int place = draft.lastPlace();
             int others = 0;
-            for (; others < tokens.count && isIn(kinds[at], Token.TIMES, Token.REST); others++) {
-                int sign = kinds[at];
-                int signPlace = tokens.places[at];
+            for (; others < tokens.count && isAt(Token.TIMES, Token.REST); others++) {
+                int sign = tokens.kindAt(at);
+                int signPlace = tokens.placeAt(at);
                 int signStart = draft.count;
                 take(sign);
                 factor(depth);
@@ -764,8 +766,8 @@ public final class ProgramReader {
         private void factor(int depth) {
             limit(depth);
             int start = draft.count;
-            int place = tokens.places[at];
-            if (kinds[at] == Token.NUMBER) {
+            int place = tokens.placeAt(at);
+            if (tokens.kindAt(at) == Token.NUMBER) {
                 number(false);
             } else if (skip(Token.MINUS)) {
                 factor(depth + 1);
@@ -792,20 +794,24 @@ public final class ProgramReader {
         }
 
         private void number(boolean isLimit) {
-            int place = tokens.places[at];
-            int sign = isLimit && skip(Token.MINUS) ? -1 : 1;
-            if (kinds[at] != Token.NUMBER) {
+            int place = tokens.placeAt(at);
+            int sign = 1;
+            if (isLimit && tokens.kindAt(at) == Token.MINUS) {
+                sign = -1;
+                at++;
+            }
+            if (tokens.kindAt(at) != Token.NUMBER) {
                 refuse();
             }
-            draft.add(Kind.NUMBER, place, sign * tokens.values[at], 1);
+            draft.add(Kind.NUMBER, place, sign * tokens.valueAt(at), 1);
             at++;
         }
 
         private void name() {
-            if (kinds[at] != Token.NAME) {
+            if (tokens.kindAt(at) != Token.NAME) {
                 refuse();
             }
-            draft.add(Kind.NAME, tokens.places[at], 0, 1);
+            draft.add(Kind.NAME, tokens.placeAt(at), 0, 1);
             at++;
         }
 
@@ -815,21 +821,23 @@ public final class ProgramReader {
 
         // Nobody takes END or BAD, so the row's last token is never passed.
         private void take(int kind) {
-            if (kinds[at] != kind) {
+            if (tokens.kindAt(at) != kind) {
                 refuse();
             }
             at++;
         }
 
         private boolean skip(int kind) {
-            if (kinds[at] != kind) {
+            if (tokens.kindAt(at) != kind) {
                 return false;
             }
             at++;
             return true;
         }
 
-        private static boolean isIn(int kind, int first, int last) {
+        /** Whether the kind of the next token is one of those from first to last. */
+        private boolean isAt(int first, int last) {
+            int kind = tokens.kindAt(at);
             return kind >= first && kind <= last;
         }
 
@@ -868,6 +876,9 @@ public final class ProgramReader {
         }
 
         int about(int k, int what) {
+            if (!has(k)) {
+                return REFUSED;
+            }
             switch (what) {
                 case 0: return kinds[k];
                 case 1: return places[k];
@@ -878,12 +889,32 @@ public final class ProgramReader {
             }
         }
 
+        int kindOf(int k) {
+            return has(k) ? kinds[k] : Kind.NOTHING;
+        }
+
+        int valueOf(int k) {
+            return has(k) ? values[k] : 0;
+        }
+
+        int partsOf(int k) {
+            return has(k) ? parts[k] : 0;
+        }
+
+        int wholeOf(int k) {
+            return has(k) ? wholes[k] : NONE;
+        }
+
+        int rankOf(int k) {
+            return has(k) ? ranks[k] : 0;
+        }
+
         int partAt(int k, int i) {
-            if (i < 0 || i >= parts[k]) {
+            if (i < 0 || i >= partsOf(k)) {
                 return NONE;
             }
             int at = k + 1;
-            for (int passed = 0; passed < i; passed++) {
+            for (int passed = 0; passed < i && has(at); passed++) {
                 at += sizes[at];
             }
             return at;
@@ -924,26 +955,31 @@ public final class ProgramReader {
             int wholesRound = 0;
             for (int i = draft.count - 1; i >= 0; i--) {
                 for (; wholesRound > 0 && i <= whole - wholesRound; wholesRound--) {
-                    whole = wholes[whole];
+                    whole = wholeOf(whole);
                 }
                 int k = i - draft.sizes[i] + 1 + wholesRound;
+                placeNode(k, draft, i, whole);
+                whole = k;
+                wholesRound++;
+            }
+        }
+
+        private void placeNode(int k, Draft draft, int i, int whole) {
+            if (has(k)) {
                 kinds[k] = draft.kinds[i];
                 places[k] = draft.places[i];
                 values[k] = draft.values[i];
                 sizes[k] = draft.sizes[i];
                 wholes[k] = whole;
-                whole = k;
-                wholesRound++;
             }
         }
 
         private void countParts() {
             for (int k = 0; k < count; k++) {
                 parts[k] = 0;
+                ranks[k] = 0;
                 int whole = wholes[k];
-                if (whole == NONE) {
-                    ranks[k] = 0;
-                } else {
+                if (has(whole)) {
                     ranks[k] = parts[whole];
                     parts[whole]++;
                 }
@@ -1063,16 +1099,20 @@ public final class ProgramReader {
             this.names = names;
         }
 
-        /** Answers whether there was room for all of it. */
+        /** Answers whether there is such a node, and room for all of it. */
         boolean compose(Tree source, int top, ByteRow row) {
+            if (!source.has(top)) {
+                return false;
+            }
             tree = source;
             target = row;
             target.clear();
             int end = top + tree.sizes[top];
             begin(top);
             for (int k = top + 1; k < end && !target.full; k++) {
-                endDownTo(tree.wholes[k], k - 1);
-                put(joint(tree.wholes[k], tree.ranks[k]));
+                int whole = tree.wholeOf(k);
+                endDownTo(whole, k - 1);
+                put(joint(whole, tree.rankOf(k)));
                 put(isBracketed(k) ? opening(k) : "");
                 begin(k);
             }
@@ -1086,17 +1126,18 @@ public final class ProgramReader {
             for (int ended = 0; ended < tree.count && k > whole; ended++) {
                 put(ending(k));
                 put(isBracketed(k) ? closing(k) : "");
-                k = tree.wholes[k];
+                k = tree.wholeOf(k);
             }
         }
 
         private void begin(int k) {
-            if (tree.kinds[k] == Kind.NUMBER) {
-                putNumber(tree.values[k]);
-            } else if (tree.kinds[k] == Kind.NAME) {
-                putName(tree.values[k]);
+            int kind = tree.kindOf(k);
+            if (kind == Kind.NUMBER) {
+                putNumber(tree.valueOf(k));
+            } else if (kind == Kind.NAME) {
+                putName(tree.valueOf(k));
             } else {
-                put(beginning(tree.kinds[k]));
+                put(beginning(kind));
             }
         }
 
@@ -1123,13 +1164,13 @@ public final class ProgramReader {
         }
 
         private String joint(int whole, int rank) {
-            switch (tree.kinds[whole]) {
+            switch (tree.kindOf(whole)) {
                 case Kind.FUNCTION: return functionJoint(whole, rank);
                 case Kind.CALL: return callJoint(whole, rank);
                 case Kind.SET_ELEMENT: return rank == 0 ? "" : rank == 1 ? "[" : "]=";
                 case Kind.IF: return rank == 0 ? "" : rank == 1 ? ")" : "else";
                 case Kind.ANY: return rank == 0 ? "(" : ",";
-                default: return rank == 0 ? "" : laterJoint(tree.kinds[whole]);
+                default: return rank == 0 ? "" : laterJoint(tree.kindOf(whole));
             }
         }
 
@@ -1137,7 +1178,7 @@ public final class ProgramReader {
             if (rank == 0) {
                 return "";
             }
-            if (rank == tree.parts[whole] - 1) {
+            if (rank == tree.partsOf(whole) - 1) {
                 return rank == 1 ? "()" : ")";
             }
             return rank == 1 ? "(" : ",";
@@ -1146,7 +1187,7 @@ public final class ProgramReader {
         private String callJoint(int whole, int rank) {
             switch (rank) {
                 case 0: return "";
-                case 1: return tree.kinds[tree.partAt(whole, 0)] == Kind.NOTHING ? "" : "=";
+                case 1: return tree.kindOf(tree.partAt(whole, 0)) == Kind.NOTHING ? "" : "=";
                 case 2: return "(";
                 default: return ",";
             }
@@ -1172,24 +1213,24 @@ public final class ProgramReader {
         }
 
         private String ending(int k) {
-            switch (tree.kinds[k]) {
+            switch (tree.kindOf(k)) {
                 case Kind.BLOCK: return "}";
                 case Kind.VAR:
                 case Kind.SET:
                 case Kind.SET_ELEMENT:
                 case Kind.RETURN: return ";";
                 case Kind.VAR_ARRAY: return "];";
-                case Kind.CALL: return tree.parts[k] == 2 ? "();" : ");";
+                case Kind.CALL: return tree.partsOf(k) == 2 ? "();" : ");";
                 case Kind.ASSERT: return ");";
                 case Kind.ELEMENT: return "]";
-                case Kind.ANY: return tree.parts[k] == 0 ? "" : ")";
+                case Kind.ANY: return tree.partsOf(k) == 0 ? "" : ")";
                 default: return "";
             }
         }
 
         private boolean isBracketed(int k) {
-            int whole = tree.kinds[tree.wholes[k]];
-            switch (tree.kinds[k]) {
+            int whole = tree.kindOf(tree.wholeOf(k));
+            switch (tree.kindOf(k)) {
                 case Kind.SUM: return whole >= Kind.NEGATIVE && whole <= Kind.REST;
                 case Kind.PRODUCT:
                     return whole == Kind.NEGATIVE || whole >= Kind.PRODUCT && whole <= Kind.REST;
@@ -1208,7 +1249,7 @@ public final class ProgramReader {
         }
 
         private boolean isCondition(int k) {
-            return tree.kinds[k] == Kind.OR || tree.kinds[k] == Kind.AND;
+            return tree.kindOf(k) == Kind.OR || tree.kindOf(k) == Kind.AND;
         }
 
         private void put(String signs) {
